@@ -40,15 +40,20 @@ public final class SumHouse {
         for (int i = 0; i < SLOTS; i++) {
             slots[i] = new Slot();
         }
-        room = new Room();
-        planes = new Planes(room);
-        divisors = new Divisors(room, planes);
-        ratios = new Ratios(room, planes, divisors);
-        terms = new Terms(room, planes, divisors, ratios);
-        texts = new Texts(room, planes, terms);
-        Solver solver = new Solver(room);
-        sums = new Sums(room, planes, divisors, ratios, terms, solver);
-        sequences = new Sequences(room, planes, divisors, solver);
+        Room cells = new Room();
+        Planes polynomials = new Planes(cells);
+        Divisors dividing = new Divisors(cells, polynomials);
+        Ratios fractions = new Ratios(cells, polynomials, dividing);
+        Terms products = new Terms(cells, polynomials, dividing, fractions);
+        Solver solver = new Solver(cells);
+        room = cells;
+        planes = polynomials;
+        divisors = dividing;
+        ratios = fractions;
+        terms = products;
+        texts = new Texts(products);
+        sums = new Sums(cells, polynomials, dividing, fractions, products, solver);
+        sequences = new Sequences(cells, polynomials, dividing, solver);
         fed = new int[FED];
         fedCount = 0;
         found = new int[MOST_N];
@@ -93,7 +98,7 @@ public final class SumHouse {
                     made = terms.negative(v);
                     break;
                 case Texts.NUMBER:
-                    made = terms.number(w);
+                    made = terms.ofNumber(w);
                     break;
                 default:
                     made = terms.line(texts.code == Texts.IN_N ? 1 : 0, texts.code == Texts.IN_K ? 1 : 0, 0);
@@ -295,7 +300,7 @@ public final class SumHouse {
         }
         room.empty();
         if (op == 10) {
-            return keep(terms.number(Numbers.rest(v)), target);
+            return keep(terms.ofNumber(Numbers.rest(v)), target);
         }
         if (!isRatioOrTerm(s)) {
             return KIND;
@@ -409,7 +414,7 @@ public final class SumHouse {
         }
         room.empty();
         int v = terms.load(s);
-        if (!sums.form(terms.ratioOf(v))) {
+        if (!sums.makeForm(terms.ratioOf(v))) {
             return LARGE;
         }
         return keep(terms.wrapped(which == 0 ? sums.formA : which == 1 ? sums.formB : sums.formC), target);
@@ -504,8 +509,9 @@ public final class SumHouse {
             return NONE;
         }
         room.empty();
-        int code = sums.check(r, terms.load(s));
-        return room.full ? LARGE : code;
+        boolean fit = sums.collect(terms.load(s), r.order);
+        boolean right = fit && sums.isRight(r);
+        return room.full || !fit ? LARGE : right ? 1 : 0;
     }
 
     public int poke(int record, int m, int i, int j, int v) {
@@ -1045,7 +1051,7 @@ public final class SumHouse {
             for (int i = 0; i < size && p + 2 + i < SIZE; i++) {
                 if (cells[p + 2 + i] != 0) {
                     tall = i / row;
-                    wide = Math.max(wide, i % row);
+                    wide = i % row > wide ? i % row : wide;
                 }
             }
             for (int j = 0; j <= tall; j++) {
@@ -1058,12 +1064,13 @@ public final class SumHouse {
             top = p + 2 + (wide + 1) * (tall + 1);
         }
 
-        /** A polynomial in n alone becomes one of this degree, the topmost block. */
+        /** A polynomial in n alone becomes one of this degree (-1: of 0), the topmost block. */
         void clip(int p, int degree) {
-            if (p >= BOTTOM && p < SIZE - 2 - Math.max(degree, 0)) {
-                cells[p] = Math.max(degree, 0);
+            int wide = degree < 0 ? 0 : degree;
+            if (p >= BOTTOM && p < SIZE - 2 - wide) {
+                cells[p] = wide;
                 cells[p + 2] = degree < 0 ? 0 : cells[p + 2];
-                top = p + 3 + Math.max(degree, 0);
+                top = p + 3 + wide;
             }
         }
 
@@ -1144,7 +1151,7 @@ public final class SumHouse {
                         cells[a + s + i] = (int) ((lead * cells[a + s + i] % P + c * cells[b + i]) % P);
                     }
                 }
-                int rest = Math.min(da, db - 1);
+                int rest = da < db ? da : db - 1;
                 while (rest >= 0 && cells[a + rest] == 0) {
                     rest--;
                 }
@@ -1357,7 +1364,7 @@ public final class SumHouse {
         }
 
         /** The number at k^j as a polynomial in n. */
-        int row(int p, int j) {
+        int slice(int p, int j) {
             int made = room.block(room.width(p), 0);
             if (j >= 0 && j <= room.height(p)) {
                 room.move(room.rowOf(p, j), made + 2, room.span(made) - 2);
@@ -1369,7 +1376,7 @@ public final class SumHouse {
         /** A polynomial as one that is monic along k: itself by the number at its greatest k^j. */
         int monic(int p) {
             int made = room.copy(p);
-            row(p, room.height(p));
+            slice(p, room.height(p));
             return made;
         }
 
@@ -1619,7 +1626,7 @@ public final class SumHouse {
             int mark = room.top;
             int ta = room.height(a);
             int tb = room.height(b);
-            int lead = single(planes.row(a, ta), planes.row(b, tb));
+            int lead = single(planes.slice(a, ta), planes.slice(b, tb));
             int bound = room.width(lead) + Math.min(room.width(a), room.width(b)) + 1;
             int p = room.take(ta + 1);
             int q = room.take(tb + 1);
@@ -2007,7 +2014,7 @@ public final class SumHouse {
             return mark;
         }
 
-        int number(int x) {
+        int ofNumber(int x) {
             int v = open();
             room.constant(x);
             room.constant(1);
@@ -2144,7 +2151,7 @@ public final class SumHouse {
         /** v times w, or v by w (not 0) with sign -1. */
         int times(int v, int w, int sign) {
             if (isZero(v) || isZero(w)) {
-                return number(0);
+                return ofNumber(0);
             }
             int mark = room.top;
             int r = sign > 0 ? ratioOf(w) : ratios.inverse(ratioOf(w));
@@ -2160,7 +2167,7 @@ public final class SumHouse {
         /** v to the power e, not below 0 where v is 0. */
         int power(int v, int e) {
             if (e == 0 || isZero(v)) {
-                return number(e == 0 ? 1 : 0);
+                return ofNumber(e == 0 ? 1 : 0);
             }
             int q = ratioOf(v);
             int size = Math.abs(e);
@@ -2183,7 +2190,7 @@ public final class SumHouse {
                 return power(v, lines[2]);
             }
             int x = room.get(ratioOf(v) + 2);
-            int made = number(Numbers.power(x, lines[2]));
+            int made = ofNumber(Numbers.power(x, lines[2]));
             room.put(made, Numbers.power(x, lines[0]));
             room.put(made + 1, Numbers.power(x, lines[1]));
             return made;
@@ -2222,6 +2229,11 @@ public final class SumHouse {
             return keepLine(2, lines[0] - lines[3], lines[1] - lines[4], lines[2] - lines[5]);
         }
 
+        /** Whether the ratio of a value is a number. */
+        boolean hasNumber(int v) {
+            return room.isNumber(ratioOf(v)) && room.isNumber(ratios.under(ratioOf(v)));
+        }
+
         boolean isNumberLine(int i) {
             return i >= 0 && i < 3 && lines[i * 3] == 0 && lines[i * 3 + 1] == 0;
         }
@@ -2232,7 +2244,7 @@ public final class SumHouse {
 
         /** The factorial of line 0, by those of the lines behind it. */
         int factorialsOfLines(int many) {
-            int v = number(1);
+            int v = ofNumber(1);
             for (int i = 0; i < many && i < 3; i++) {
                 int sign = i == 0 ? 1 : -1;
                 int c = lines[i * 3 + 2];
@@ -2385,7 +2397,7 @@ public final class SumHouse {
             int x = Numbers.times(Numbers.minus(0, room.head(a)), Numbers.inverse(room.head(b)));
             int leftA = room.width(a);
             int leftB = room.width(b);
-            int v = number(1);
+            int v = ofNumber(1);
             room.put(v, x);
             for (int c = 1 - MOST_C; c <= 1 + MOST_C; c++) {
                 int timesA = timesRoot(a, leftA, Numbers.rest(-c));
@@ -2443,8 +2455,6 @@ public final class SumHouse {
         private static final int CHOICE_OPEN = 5;
         private static final int WRONG = 6;
 
-        private final Room room;
-        private final Planes planes;
         private final Terms terms;
         private final int[] tape;
         int tapeCount;
@@ -2453,8 +2463,6 @@ public final class SumHouse {
         private final int[] ink;
         private int inkCount;
         private final int[] codes;
-        private final int[] places;
-        private final int[] numbers;
         int codeCount;
         private final int[] signs;
         private int signCount;
@@ -2467,16 +2475,12 @@ public final class SumHouse {
         int right;
         int faultPlace;
 
-        Texts(Room room, Planes planes, Terms terms) {
-            this.room = room;
-            this.planes = planes;
+        Texts(Terms terms) {
             this.terms = terms;
             tape = new int[TAPE];
             written = new int[WRITTEN];
             ink = new int[WRITTEN];
-            codes = new int[TAPE + 1];
-            places = new int[TAPE + 1];
-            numbers = new int[TAPE + 1];
+            codes = new int[3 * (TAPE + 1)];
             signs = new int[2 * (TAPE + 1)];
             values = new int[TAPE + 1];
             faultPlace = NONE;
@@ -2666,11 +2670,11 @@ public final class SumHouse {
             }
         }
 
-        private void emit(int code, int place, int number) {
-            if (codeCount >= 0 && codeCount < codes.length) {
-                codes[codeCount] = code;
-                places[codeCount] = place;
-                numbers[codeCount] = number;
+        private void emit(int sign, int place, int number) {
+            if (codeCount >= 0 && codeCount * 3 + 2 < codes.length) {
+                codes[codeCount * 3] = sign;
+                codes[codeCount * 3 + 1] = place;
+                codes[codeCount * 3 + 2] = number;
                 codeCount++;
             }
         }
@@ -2683,16 +2687,16 @@ public final class SumHouse {
 
         /** Looks at code i: 0 with its operands in left and right, or its fault 2 or 3; its place is kept. */
         int ready(int i) {
-            if (i < 0 || i >= codeCount || i >= codes.length) {
+            if (i < 0 || i >= codeCount || i * 3 + 2 >= codes.length) {
                 return 4;
             }
-            code = codes[i];
-            faultPlace = places[i];
+            code = codes[i * 3];
+            faultPlace = codes[i * 3 + 1];
             int operands = code >= NUMBER ? 0 : code == NEGATE || code == FACTORIAL ? 1 : 2;
             if (valueCount < operands || valueCount > values.length) {
                 return 4;
             }
-            right = operands > 0 ? values[valueCount - 1] : numbers[i];
+            right = operands > 0 ? values[valueCount - 1] : codes[i * 3 + 2];
             left = operands > 1 ? values[valueCount - 2] : right;
             valueCount -= operands;
             return operands == 0 ? 0 : faultOf(left, right);
@@ -2729,15 +2733,10 @@ public final class SumHouse {
             if (code != POWER) {
                 return 0;
             }
-            if (!terms.isLine(w, 0) || !terms.isNumberLine(0) && (term || !hasNumber(v))) {
+            if (!terms.isLine(w, 0) || !terms.isNumberLine(0) && (term || !terms.hasNumber(v))) {
                 return 2;
             }
             return terms.isZero(v) && (!terms.isNumberLine(0) || terms.isBelowZero(0)) ? 3 : 0;
-        }
-
-        private boolean hasNumber(int v) {
-            int q = terms.ratioOf(v);
-            return room.isNumber(q) && room.isNumber(q + room.span(q));
         }
 
         // ---- writing
@@ -2828,10 +2827,6 @@ public final class SumHouse {
                 draw('*');
             }
             draw(letter);
-            drawPower(e);
-        }
-
-        private void drawPower(int e) {
             if (e > 1) {
                 draw('^');
                 drawNumber(e);
@@ -2871,7 +2866,10 @@ public final class SumHouse {
             }
             draw(')');
             draw('!');
-            drawPower(Math.abs(s.fact(i, 3)));
+            if (Math.abs(s.fact(i, 3)) > 1) {
+                draw('^');
+                drawNumber(Math.abs(s.fact(i, 3)));
+            }
         }
     }
 
@@ -3077,7 +3075,7 @@ public final class SumHouse {
         // ---- the form
 
         /** The form of a ratio that is not 0: whether it is modest. */
-        boolean form(int q) {
+        boolean makeForm(int q) {
             int den = ratios.under(q);
             int a = divisors.primitive(q);
             int b = divisors.primitive(den);
@@ -3100,8 +3098,8 @@ public final class SumHouse {
             }
             planes.slideK(b, Numbers.minus(0, slid));
             // B and C are monic, so that the numbers at A's and r's greatest powers of k are the same
-            int above = planes.row(q, room.height(q));
-            int below = planes.times(planes.row(den, room.height(den)), planes.row(a, room.height(a)));
+            int above = planes.slice(q, room.height(q));
+            int below = planes.times(planes.slice(den, room.height(den)), planes.slice(a, room.height(a)));
             int g = divisors.single(above, below);
             above = planes.divide(above, g);
             below = planes.divide(below, g);
@@ -3138,7 +3136,7 @@ public final class SumHouse {
         /** The depth of the equation of the form, z being the degree of its right side. */
         private int depthFor(int z) {
             int d = Math.max(room.height(formA), room.height(formB));
-            int lead = planes.row(formA, d);
+            int lead = planes.slice(formA, d);
             int denA = ratios.under(formA);
             if (room.height(formA) != room.height(formB) || !room.isZero(planes.plus(lead, denA, P - 1))) {
                 return z - d;
@@ -3148,8 +3146,8 @@ public final class SumHouse {
                 int denB = ratios.under(formB);
                 int before = room.copy(formB);
                 planes.slideK(before, P - 1);
-                int g = planes.times(planes.row(before, d - 1), denA);
-                int f = planes.times(planes.row(formA, d - 1), denB);
+                int g = planes.times(planes.slice(before, d - 1), denA);
+                int f = planes.times(planes.slice(formA, d - 1), denB);
                 h = numberOf(planes.plus(g, f, P - 1), planes.times(denA, denB));
             }
             return h >= 0 && h <= MODEST_N ? Math.max(z - d + 1, h) : z - d + 1;
@@ -3224,7 +3222,7 @@ public final class SumHouse {
 
         /** The form of r and the equation with so many pieces: 0 if it is solved, NONE, or LARGE. */
         private int solved(int r, int count) {
-            if (!form(r)) {
+            if (!makeForm(r)) {
                 return LARGE;
             }
             int z = 0;
@@ -3252,7 +3250,7 @@ public final class SumHouse {
             int before = room.copy(formB);
             planes.slideK(before, P - 1);
             int x = planes.times(before, solver.factorsBelow(unknowns));
-            int above = planes.times(x, planes.times(scaleAB, planes.row(whole, room.height(whole))));
+            int above = planes.times(x, planes.times(scaleAB, planes.slice(whole, room.height(whole))));
             int below = planes.times(planes.times(ratios.under(formB), by), planes.times(formC, whole));
             made = ratios.reduced(above, below);
             boolean fit = ratios.fits(made);
@@ -3327,11 +3325,8 @@ public final class SumHouse {
 
         // ---- records looked at again
 
-        /** Whether a record is right for a value that is not 0: 1, 0, or LARGE. */
-        int check(Slot record, int v) {
-            if (!collect(v, record.order)) {
-                return LARGE;
-            }
+        /** Whether a record is right for the value whose s_j have been collected. */
+        boolean isRight(Slot record) {
             int above = planes.loadStep(record, 0);
             int below = room.constant(1);
             for (int j = 1; j <= record.order && j < steps.length; j++) {
@@ -3352,7 +3347,7 @@ public final class SumHouse {
             int difference = planes.plus(left, right, P - 1);
             int one = planes.times(difference, below);
             int other = planes.times(above, planes.times(den, denLater));
-            return room.isZero(planes.plus(one, other, P - 1)) ? 1 : 0;
+            return room.isZero(planes.plus(one, other, P - 1));
         }
 
         /** Whether a record holds by numbers: 1, 0, or NONE. */
@@ -3634,7 +3629,7 @@ public final class SumHouse {
                 for (int d = 0; d <= GUESS_DEGREE && (r + 1) * (d + 1) + 4 <= count - r; d++) {
                     room.empty();
                     if (isGuess(r, d, fed, count)) {
-                        return guess(r, d, fed, count, target);
+                        return guessRow(r, d, fed, count, target);
                     }
                 }
             }
@@ -3656,7 +3651,7 @@ public final class SumHouse {
             return solver.target >= 0;
         }
 
-        private int guess(int r, int d, int[] fed, int count, Slot target) {
+        private int guessRow(int r, int d, int[] fed, int count, Slot target) {
             for (int j = 0; j <= r && j < family.length; j++) {
                 family[j] = room.block(d, 0);
                 for (int i = 0; i <= d; i++) {
