@@ -75,10 +75,13 @@ public final class SumHouse {
         int fault = texts.compile();
         for (int i = 0; i < texts.codeCount && fault == 0; i++) {
             fault = texts.ready(i);
+            if (fault != 0) {
+                break;
+            }
             int v = texts.left;
             int w = texts.right;
-            int made = -1;
-            switch (fault == 0 ? texts.code : NONE) {
+            int made;
+            switch (texts.code) {
                 case Texts.PLUS:
                 case Texts.MINUS:
                     made = terms.plus(v, w, texts.code == Texts.PLUS ? 1 : P - 1);
@@ -104,7 +107,7 @@ public final class SumHouse {
                     made = terms.line(texts.code == Texts.IN_N ? 1 : 0, texts.code == Texts.IN_K ? 1 : 0, 0);
                     break;
             }
-            fault = fault != 0 ? fault : texts.finish(made);
+            fault = texts.finish(made);
         }
         texts.emptyTape();
         if (fault == 0 && room.full) {
@@ -165,9 +168,7 @@ public final class SumHouse {
         if (which < 0 || which > 1 || way < 0 || way > 1) {
             return NONE;
         }
-        room.empty();
-        int p = planes.load(which == 0 ? s.above : s.below);
-        return way == 0 ? room.width(p) : room.height(p);
+        return way == 0 ? s.wide(which) : s.tall(which);
     }
 
     public int number(int slot, int which, int i, int j) {
@@ -530,7 +531,7 @@ public final class SumHouse {
             r.putStep(m, i, Numbers.rest(v));
             return was;
         }
-        r.putRatio(0, i, j, Numbers.rest(v));
+        r.putAbove(i, j, Numbers.rest(v));
         room.empty();
         int q = ratios.reduced(planes.load(r.above), planes.load(r.below));
         planes.save(q, r.above);
@@ -693,10 +694,13 @@ public final class SumHouse {
         return made < 0 || room.full ? LARGE : terms.save(made, target);
     }
 
-    /** What one slot holds, as plain rows of numbers: stride 25 along n. */
+    /**
+     * What one slot holds. A side of its ratio is a row: the degrees in n and k, then the numbers, with
+     * place for 25 at each power of k; what lies above the degrees is 0.
+     */
     static final class Slot {
         private static final int STRIDE = MOST_N + 1;
-        private static final int PLANE = STRIDE * (MOST_K + 1);
+        private static final int PLANE = 2 + STRIDE * (MOST_K + 1);
         private static final int FACTS = 12;
         int kind;
         int x;
@@ -727,13 +731,6 @@ public final class SumHouse {
             order = 0;
             needs = 0;
             has = 0;
-            for (int i = 0; i < PLANE; i++) {
-                above[i] = 0;
-                below[i] = 0;
-            }
-            for (int i = 0; i < steps.length; i++) {
-                steps[i] = 0;
-            }
         }
 
         int fact(int i, int what) {
@@ -744,17 +741,23 @@ public final class SumHouse {
             if (i < 0 || i > MOST_N || j < 0 || j > MOST_K) {
                 return 0;
             }
-            return which == 0 ? above[j * STRIDE + i] : below[j * STRIDE + i];
+            return which == 0 ? above[2 + j * STRIDE + i] : below[2 + j * STRIDE + i];
         }
 
-        void putRatio(int which, int i, int j, int v) {
-            if (i < 0 || i > MOST_N || j < 0 || j > MOST_K) {
-                return;
-            }
-            if (which == 0) {
-                above[j * STRIDE + i] = v;
-            } else {
-                below[j * STRIDE + i] = v;
+        int wide(int which) {
+            return Math.min(which == 0 ? above[0] : below[0], MOST_N);
+        }
+
+        int tall(int which) {
+            return Math.min(which == 0 ? above[1] : below[1], MOST_K);
+        }
+
+        /** The numerator gets another number; its degrees may be told too great then. */
+        void putAbove(int i, int j, int v) {
+            if (i >= 0 && i <= MOST_N && j >= 0 && j <= MOST_K) {
+                above[0] = Math.max(above[0], i);
+                above[1] = Math.max(above[1], j);
+                above[2 + j * STRIDE + i] = v;
             }
         }
 
@@ -782,10 +785,10 @@ public final class SumHouse {
         /** The numerator or denominator at numbers n, k. */
         int sideAt(int which, int n, int k) {
             long sum = 0;
-            for (int j = MOST_K; j >= 0; j--) {
+            for (int j = tall(which); j >= 0; j--) {
                 long row = 0;
-                for (int i = MOST_N; i >= 0; i--) {
-                    row = (row * n + (which == 0 ? above[j * STRIDE + i] : below[j * STRIDE + i])) % P;
+                for (int i = wide(which); i >= 0; i--) {
+                    row = (row * n + ratioNumber(which, i, j)) % P;
                 }
                 sum = (sum * k + row) % P;
             }
@@ -793,31 +796,16 @@ public final class SumHouse {
         }
 
         boolean isZero() {
-            for (int i = 0; i < PLANE; i++) {
-                if (above[i] != 0) {
-                    return false;
-                }
-            }
-            return kind == RATIO;
+            return kind == RATIO && above[0] == 0 && above[1] == 0 && above[2] == 0;
         }
 
         /** Whether the denominator is 1. */
         boolean isWhole() {
-            for (int i = 1; i < PLANE; i++) {
-                if (below[i] != 0) {
-                    return false;
-                }
-            }
-            return below[0] == 1;
+            return below[0] == 0 && below[1] == 0 && below[2] == 1;
         }
 
         boolean isFreeOfK() {
-            for (int i = STRIDE; i < PLANE; i++) {
-                if (above[i] != 0) {
-                    return false;
-                }
-            }
-            return true;
+            return above[1] == 0;
         }
 
         int addFirst(int v) {
@@ -858,7 +846,7 @@ public final class SumHouse {
             long left = e < 0 ? e % (P - 1) + (P - 1) : e;
             long made = 1;
             long square = a;
-            for (int bit = 0; bit < 32; bit++) {
+            for (int bit = 0; bit < 32 && left >> bit > 0; bit++) {
                 if ((left >> bit & 1) == 1) {
                     made = made * square % P;
                 }
@@ -892,7 +880,7 @@ public final class SumHouse {
      * numbers, the rows of k^0, k^1 .. after each other; the degrees are always the true ones.
      */
     static final class Room {
-        private static final int SIZE = 400000;
+        private static final int SIZE = 200000;
         /** Below it lies the polynomial 0 and what is never written: blocks for which there is no room. */
         private static final int BOTTOM = 2048;
         private static final int WIDEST = 8000;
@@ -1021,13 +1009,13 @@ public final class SumHouse {
             for (int i = 0; i < size && p + i < SIZE; i++) {
                 cells[mark + i] = cells[p + i];
             }
-            top = mark + size;
+            top = size < 3 || size > SIZE - mark ? mark : mark + size;
             return mark;
         }
 
         int copy(int p) {
-            int size = p >= 0 && p < SIZE - 2 ? 2 + (cells[p] + 1) * (cells[p + 1] + 1) : SIZE;
-            if (size > SIZE - top || p > SIZE - size) {
+            int size = p >= 0 && p < SIZE - 2 ? 2 + (cells[p] + 1) * (cells[p + 1] + 1) : 0;
+            if (size < 3 || size > SIZE - top || p > SIZE - size) {
                 full = true;
                 return 0;
             }
@@ -1041,7 +1029,7 @@ public final class SumHouse {
 
         /** The degrees become the true ones, the numbers moving together; p is the topmost block. */
         void trim(int p) {
-            if (p < BOTTOM || p >= SIZE - 2) {
+            if (p < BOTTOM || p >= SIZE - 2 || cells[p] < 0) {
                 return;
             }
             int row = cells[p] + 1;
@@ -1318,27 +1306,35 @@ public final class SumHouse {
             return mark;
         }
 
-        int load(int[] dense) {
-            int tall = 0;
-            int wide = 0;
-            for (int i = 0; i < dense.length; i++) {
-                if (dense[i] != 0) {
-                    tall = i / Slot.STRIDE;
-                    wide = Math.max(wide, i % Slot.STRIDE);
-                }
-            }
+        /** A side of what a slot has. */
+        int load(int[] side) {
+            int wide = Math.min(side.length > 1 ? side[0] : 0, MOST_N);
+            int tall = Math.min(side.length > 1 ? side[1] : 0, MOST_K);
             int p = room.block(wide, tall);
             for (int j = 0; j <= tall; j++) {
-                for (int i = 0; i <= wide && j * Slot.STRIDE + i < dense.length; i++) {
-                    room.put(room.rowOf(p, j) + i, dense[j * Slot.STRIDE + i]);
+                int from = 2 + j * Slot.STRIDE;
+                for (int i = 0; i <= wide && from + i < side.length; i++) {
+                    room.put(room.rowOf(p, j) + i, side[from + i]);
                 }
             }
+            room.trim(p);
             return p;
         }
 
-        void save(int p, int[] dense) {
-            for (int i = 0; i < dense.length; i++) {
-                dense[i] = cell(p, i % Slot.STRIDE, i / Slot.STRIDE);
+        void save(int p, int[] side) {
+            for (int i = 0; i < side.length; i++) {
+                side[i] = 0;
+            }
+            if (side.length < 2) {
+                return;
+            }
+            side[0] = Math.min(room.width(p), MOST_N);
+            side[1] = Math.min(room.height(p), MOST_K);
+            for (int j = 0; j <= side[1]; j++) {
+                int to = 2 + j * Slot.STRIDE;
+                for (int i = 0; i <= side[0] && to + i < side.length; i++) {
+                    side[to + i] = room.get(room.rowOf(p, j) + i);
+                }
             }
         }
 
@@ -2790,8 +2786,8 @@ public final class SumHouse {
 
         private void drawPolynomial(Slot s, int which) {
             int parts = 0;
-            for (int j = MOST_K; j >= 0; j--) {
-                for (int i = MOST_N; i >= 0; i--) {
+            for (int j = s.tall(which); j >= 0; j--) {
+                for (int i = s.wide(which); i >= 0; i--) {
                     int v = Numbers.small(s.ratioNumber(which, i, j));
                     if (v != 0) {
                         drawPart(v, i, j, parts == 0);
@@ -3525,7 +3521,7 @@ public final class SumHouse {
         /** op 0 the sum, 1 the difference, 2 the product of two rows, 5 a row times a polynomial. */
         int joined(int op, Slot s, Slot t, Slot target) {
             int degreeS = degreeOf(s);
-            int degreeT = op == 5 ? factorDegree(t) : degreeOf(t);
+            int degreeT = op == 5 ? t.wide(0) : degreeOf(t);
             int most = op == 5 ? s.order : op == 2 ? s.order * t.order : s.order + t.order;
             if (degreeS > JOINED_DEGREE || degreeT > JOINED_DEGREE || most > MOST_ORDER) {
                 return LARGE;
@@ -3564,14 +3560,6 @@ public final class SumHouse {
                 for (int i = 0; i <= MOST_N; i++) {
                     degree = s.stepNumber(j, i) != 0 ? Math.max(degree, i) : degree;
                 }
-            }
-            return degree;
-        }
-
-        private static int factorDegree(Slot t) {
-            int degree = 0;
-            for (int i = 0; i <= MOST_N; i++) {
-                degree = t.ratioNumber(0, i, 0) != 0 ? i : degree;
             }
             return degree;
         }
