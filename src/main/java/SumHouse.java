@@ -1742,7 +1742,7 @@ public final class SumHouse {
             int size = once;
             for (int i = 0; i < size; i++) {
                 int x = lowest(size, i);
-                for (int turn = 0; turn <= degree && many < found.length && isRoot(f, degree, x); turn++) {
+                for (int turn = 0; turn <= MOST_N && many < found.length && isRoot(f, degree, x); turn++) {
                     found[many] = x;
                     many++;
                     degree--;
