@@ -55,6 +55,8 @@ public final class SumsTest {
         form("n^13*k", "-2", "-2", "-2");
         form("n^12*k", "n^12*k", "1", "1");
         form("k/n^13", "-2", "-2", "-2");
+        form("(k+n^12+1)/(k+n^12)", "1", "1", "k+n^12");
+        form("(k+n^13+1)/(k+n^13)", "-2", "-2", "-2");
         form("1/(k^9+1)", "-2", "-2", "-2");
         form("(k^9+k)/(k^9+k)*k", "k", "1", "1");
     }
@@ -79,6 +81,13 @@ public final class SumsTest {
         close("(-1)^k*C(n,k)", "(-k)/(n)");
         close("(n+k)!/k!", "(k)/(n+1)");
         close("n!*2^n", "k");
+        // A (k - n) (k + n), B (k + 1) (k + 2): (g - f) / l is 1, and x = (k - n^2) / (n^4 - n^2)
+        close("(-1)^k*(n+k-1)!/(n-k)!/k!/(k+1)!", "(k^3-n^2*k^2+k^2-n^2*k)/(n^4-n^2)");
+        // A k + 1, B k + b + 1: (g - f) / l is b - 1, and x is 1 / (1 - b)
+        Due.due("b = 9: depth 8", Due.house("k!/(k+9)!").close(0, 1), 1);
+        Due.due("b = 10: depth 9", Due.house("k!/(k+10)!").close(0, 1), -2);
+        Due.due("b = 13: depth 12", Due.house("k!/(k+13)!").close(0, 1), -2);
+        Due.due("b = 14: 13 does not count", Due.house("k!/(k+14)!").close(0, 1), 1);
     }
 
     private static void notClosed() {

@@ -139,6 +139,9 @@ public final class TapeTest {
         fault("(0-1)!", 3, 5);
         fault("C(2,3)", 3, 0);
         fault("C(-1,0)", 3, 0);
+        fault("C(n,0-1)", 3, 0);
+        fault("C(0-1,k)", 3, 0);
+        fault("k*C(n,n+1)", 3, 2);
         fault("0^n", 3, 1);
         fault("0^(0-1)", 3, 1);
         fine("C(5,2)", "10");
