@@ -880,7 +880,7 @@ public final class SumHouse {
      * numbers, the rows of k^0, k^1 .. after each other; the degrees are always the true ones.
      */
     static final class Room {
-        private static final int SIZE = 200000;
+        private static final int SIZE = 131072;
         /** Below it lies the polynomial 0 and what is never written: blocks for which there is no room. */
         private static final int BOTTOM = 2048;
         private static final int WIDEST = 8000;
@@ -3325,11 +3325,13 @@ public final class SumHouse {
         boolean isRight(Slot record) {
             int above = planes.loadStep(record, 0);
             int below = room.constant(1);
+            int mark = above;
             for (int j = 1; j <= record.order && j < steps.length; j++) {
                 int den = ratios.under(steps[j]);
                 int more = planes.times(planes.times(planes.loadStep(record, j), steps[j]), below);
-                above = planes.plus(planes.times(above, den), more, 1);
-                below = planes.times(below, den);
+                int sum = planes.plus(planes.times(above, den), more, 1);
+                above = planes.pair(mark, sum, planes.times(below, den));
+                below = ratios.under(above);
             }
             int num = planes.load(record.above);
             int den = planes.load(record.below);
