@@ -219,6 +219,10 @@ public final class RowsTest {
         Due.due("the other one", h.join(2, 2, 3, 5), -2);
         Due.due("scaled", h.join(5, 3, 0, 5), -2);
         Due.due("moved it may be", h.join(4, 3, 0, 5), 1);
+        int[] far = new int[25];
+        far[24] = 1;
+        row(h, 6, new int[][] {far, {1}}, 1);
+        Due.due("an a_j that is n^24", h.join(0, 6, 2, 5), -2);
         Due.due("not all first numbers", h.join(4, 4, 0, 6), -1);
         Due.due("the other one", h.join(0, 2, 4, 6), -1);
         Due.due("op 6", h.join(6, 1, 99, 6), -1);
@@ -297,6 +301,34 @@ public final class RowsTest {
     private static void noGuesses() {
         SumHouse h = Due.house("n");
         Due.due("from none", h.guess(1), -1);
+        // n!^8 has an a_0 of degree 8; n!^9 would need one of degree 9
+        long[] eighth = new long[60];
+        long[] ninth = new long[60];
+        for (int n = 0; n < 60; n++) {
+            eighth[n] = n == 0 ? 1 : eighth[n - 1];
+            ninth[n] = n == 0 ? 1 : ninth[n - 1];
+            for (int i = 0; i < 9 && n > 0; i++) {
+                eighth[n] = i < 8 ? eighth[n] * n % P : eighth[n];
+                ninth[n] = ninth[n] * n % P;
+            }
+        }
+        feed(h, eighth);
+        Due.due("n!^8", h.guess(1), 1);
+        Due.due("degree 8", h.number(1, 2, 8, 0), P - 1);
+        feed(h, ninth);
+        Due.due("n!^9", h.guess(1), -1);
+        // u(n + 4) = u(n + 3) + u(n), and u(n + 5) = u(n + 4) + u(n)
+        long[] four = new long[20];
+        long[] five = new long[20];
+        for (int n = 0; n < 20; n++) {
+            four[n] = n < 4 ? n * n + 3 : four[n - 1] + four[n - 4];
+            five[n] = n < 5 ? n * n + 3 : five[n - 1] + five[n - 5];
+        }
+        feed(h, four);
+        Due.due("order 4", h.guess(1), 4);
+        steps("order 4", h, 1, "-1", "0", "0", "-1", "1");
+        feed(h, five);
+        Due.due("order 5", h.guess(2), -1);
         feed(h, 0, 0, 0, 0, 0, 0, 0, 0, 0, 0);
         Due.due("a_0 alone: a_r is 0", h.guess(1), -1);
         feed(h, 1, 0, 0, 0, 0, 0, 0, 0, 0, 0);

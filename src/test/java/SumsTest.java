@@ -55,6 +55,7 @@ public final class SumsTest {
         form("n^13*k", "-2", "-2", "-2");
         form("n^12*k", "n^12*k", "1", "1");
         form("k/n^13", "-2", "-2", "-2");
+        form("k/n^12", "(k)/(n^12)", "1", "1");
         form("(k+n^12+1)/(k+n^12)", "1", "1", "k+n^12");
         form("(k+n^13+1)/(k+n^13)", "-2", "-2", "-2");
         form("1/(k^9+1)", "-2", "-2", "-2");
@@ -83,6 +84,9 @@ public final class SumsTest {
         close("n!*2^n", "k");
         // A (k - n) (k + n), B (k + 1) (k + 2): (g - f) / l is 1, and x = (k - n^2) / (n^4 - n^2)
         close("(-1)^k*(n+k-1)!/(n-k)!/k!/(k+1)!", "(k^3-n^2*k^2+k^2-n^2*k)/(n^4-n^2)");
+        // depth 8 by z - d + 1 (g - f has n), and by z - d
+        Due.due("C is k^8, d is 1", Due.house("k^9*(n+k-1)!/k!").close(0, 1), 1);
+        Due.due("C is k^8, d is 0", Due.house("2^k*k^8").close(0, 1), 1);
         // A k + 1, B k + b + 1: (g - f) / l is b - 1, and x is 1 / (1 - b)
         Due.due("b = 9: depth 8", Due.house("k!/(k+9)!").close(0, 1), 1);
         Due.due("b = 10: depth 9", Due.house("k!/(k+10)!").close(0, 1), -2);
@@ -105,6 +109,7 @@ public final class SumsTest {
         SumHouse h = Due.house("C(n,k)");
         Due.due("an empty slot", h.close(3, 1), -3);
         Due.due("to slot 12", h.close(0, 12), -1);
+        Due.due("to slot 12 where there is one", Due.house("k*k!").close(0, 12), -1);
         h.recur(0, 1, 1);
         Due.due("a record", h.close(1, 2), -3);
     }

@@ -10,6 +10,8 @@ public final class TapeTest {
         faultFour();
         writing();
         again();
+        exactly400();
+        exactly4000();
         Due.end();
     }
 
@@ -158,6 +160,8 @@ public final class TapeTest {
         fine("(n!/k!)^6", "(1)/(k)!^6*(n)!^6");
         fine("n!^12/n!^12*n!", "(1)*(n)!");
         fine("n^24*k^12", "n^24*k^12");
+        fine("1/n^24", "(1)/(n^24)");
+        fine("1/k^12", "(1)/(k^12)");
     }
 
     private static void writing() {
@@ -197,5 +201,67 @@ public final class TapeTest {
         Due.due("more than 400 bytes", h.write(1) > 400 ? 1 : 0, 1);
         Due.due("is too large", h.again(), -2);
         Due.due("and nothing is done", h.count(0), 1);
+    }
+
+    /** A polynomial of 20 parts whose text has 400 bytes if the first number has ten digits. */
+    private static String parts(String firstNumber, String secondNumber) {
+        StringBuilder text = new StringBuilder();
+        for (int part = 0; part < 20; part++) {
+            String number = part == 0 ? firstNumber : part == 1 ? secondNumber : "123456789";
+            text.append(part == 0 ? "" : "+").append(number);
+            text.append("*n^").append(24 - part % 10).append("*k^").append(12 - part / 10);
+        }
+        return text.toString();
+    }
+
+    private static void exactly400() {
+        SumHouse h = new SumHouse();
+        String text = parts("1023456789", "123456789");
+        Due.due("400 bytes", text.length(), 400);
+        Due.due("are read", Due.read(h, text, 0), 1);
+        Due.due("and written", Due.text(h, 0), text);
+        Due.due("and become the tape", h.again(), 400);
+        Due.due("are read again", h.read(1), 1);
+        Due.read(h, "900000000*n^23*k^12", 2);
+        h.work(0, 0, 2, 0);
+        Due.due("401 bytes", Due.text(h, 0), parts("1023456789", "1023456789"));
+        Due.due("do not", h.again(), -2);
+    }
+
+    private static void exactly4000() {
+        SumHouse h = Due.house("0");
+        for (int j = 12; j >= 2; j--) {
+            for (int i = 24; i >= 10; i--) {
+                addPart(h, "1023456789", i, j);
+            }
+        }
+        for (int j = 9; j >= 2; j--) {
+            for (int i = 9; i >= 2; i--) {
+                // the last two share what is left; a sign and the letters take 9 bytes
+                int left = 4000 - h.write(0);
+                int size = left > 38 ? 19 : left > 19 ? left / 2 : left;
+                if (size > 9) {
+                    addPart(h, "1023456789".substring(0, size - 9), i, j);
+                }
+            }
+        }
+        Due.due("4000 bytes", h.write(0), 4000);
+        Due.due("the last one", h.written(3999) >= 0 ? 1 : 0, 1);
+        Due.due("no 4001st", h.written(4000), -1);
+        Due.read(h, "7", 1);
+        h.work(0, 0, 1, 0);
+        Due.due("4002 bytes", h.write(0), -2);
+        Due.due("4000 are still written", h.count(1), 4000);
+        h.work(1, 0, 1, 0);
+        Due.read(h, "9*n^24*k^12", 1);
+        Due.read(h, "1023456789*n^24*k^12", 2);
+        h.work(1, 0, 2, 0);
+        h.work(0, 0, 1, 0);
+        Due.due("nine bytes less", h.write(0), 3991);
+    }
+
+    private static void addPart(SumHouse h, String number, int i, int j) {
+        Due.read(h, number + "*n^" + i + "*k^" + j, 1);
+        h.work(0, 0, 1, 0);
     }
 }

@@ -25,6 +25,7 @@ public final class ValueTest {
         SumHouse h = Due.house("C(n,k)", "2^n*3^k*(n-k)!", "n!/(k-2)*k", "C(2*n,n)/(n-3)", "(3*n+3*k+50)!/(3*n+3*k+49)!");
         Due.due("C(10, 3)", h.value(0, 10, 3), 120);
         Due.due("C(3, 5)", h.value(0, 3, 5), 0);
+        Due.due("C(0, 0)", h.value(0, 0, 0), 1);
         Due.due("C(500, 500)", h.value(0, 500, 500), 1);
         Due.due("n = 501", h.value(0, 501, 0), -1);
         Due.due("k = -1", h.value(0, 5, -1), -1);

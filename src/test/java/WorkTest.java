@@ -91,6 +91,8 @@ public final class WorkTest {
         change(2, "1/(n-5)", 5, "-1");
         change(2, "(n-5)/(n+k)", 5, "0");
         change(3, "(n+k)/(n*k)", -1, "(-n+1)/(n)");
+        change(3, "k^2+n", 3, "n+9");
+        change(2, "k^2+n", 3, "k^2+3");
         change(4, "n^2*k/(n+1)", 0, "(n^2*k+2*n*k)/(n^2+2*n+1)");
         change(5, "1/k", 0, "(-1)/(k^2)");
         change(4, "k", 0, "0");
