@@ -135,6 +135,8 @@ public final class SlotTest {
             Due.due("factorial " + i / 4 + " " + i % 4, h.factorial(0, i / 4, i % 4), want[i]);
         }
         Due.due("none such", h.factorial(0, 4, 0), 0);
+        Due.read(h, "n!*(n+1)!*(n+2)!", 0);
+        Due.due("none such any more", h.factorial(0, 3, 1), 0);
         Due.due("place -1", h.factorial(0, -1, 0), 0);
         Due.due("what 4", h.factorial(0, 0, 4), 0);
         Due.due("a ratio has none", h.factorial(1, 0, 0), 0);

@@ -230,6 +230,9 @@ public final class SumsTest {
         Due.due("k of an a_m", h.poke(2, 0, 0, 1, 1), -1);
         Due.due("k^13 of R", h.poke(2, -1, 0, 13, 1), -1);
         Due.due("k^12 of R", h.poke(2, -1, 24, 12, 1), 0);
+        Due.due("stands", h.number(2, 0, 24, 12), 1);
+        Due.due("degree in n", h.degree(2, 0, 0), 24);
+        Due.due("degree in k", h.degree(2, 0, 1), 12);
         Due.due("a term", h.poke(0, 0, 0, 0, 1), -3);
         Due.due("slot 12", h.poke(12, 0, 0, 0, 1), -1);
         // the a_m stay as they are, with a common divisor

@@ -126,6 +126,9 @@ public final class TapeTest {
         fault("(n/k)!", 2, 5);
         fault("(4*n)!", 2, 5);
         fault("(n*k)!", 2, 5);
+        fault("(n^2)!", 2, 5);
+        fault("(k^2+n)!", 2, 7);
+        fault("2^(k^2)", 2, 1);
         fault("51!", 2, 2);
         fault("(n-51)!", 2, 6);
         fault("n!^n", 2, 2);
@@ -228,7 +231,8 @@ public final class TapeTest {
         Due.due("do not", h.again(), -2);
     }
 
-    private static void exactly4000() {
+    /** A house with a polynomial in slot 0 of so many bytes as text, 4000 or a little less. */
+    private static SumHouse filled(int bytes) {
         SumHouse h = Due.house("0");
         for (int j = 12; j >= 2; j--) {
             for (int i = 24; i >= 10; i--) {
@@ -238,14 +242,24 @@ public final class TapeTest {
         for (int j = 9; j >= 2; j--) {
             for (int i = 9; i >= 2; i--) {
                 // the last two share what is left; a sign and the letters take 9 bytes
-                int left = 4000 - h.write(0);
+                int left = bytes - h.write(0);
                 int size = left > 38 ? 19 : left > 19 ? left / 2 : left;
                 if (size > 9) {
                     addPart(h, "1023456789".substring(0, size - 9), i, j);
                 }
             }
         }
-        Due.due("4000 bytes", h.write(0), 4000);
+        Due.due("bytes", h.write(0), bytes);
+        return h;
+    }
+
+    private static void exactly4000() {
+        SumHouse g = filled(3999);
+        Due.read(g, "7", 1);
+        g.work(0, 0, 1, 0);
+        Due.due("4001 bytes", g.write(0), -2);
+        Due.due("3999 are still written", g.count(1), 3999);
+        SumHouse h = filled(4000);
         Due.due("the last one", h.written(3999) >= 0 ? 1 : 0, 1);
         Due.due("no 4001st", h.written(4000), -1);
         Due.read(h, "7", 1);

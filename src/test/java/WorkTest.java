@@ -111,6 +111,7 @@ public final class WorkTest {
         change(9, "n", -13, "-1");
         change(9, "n^3", 9, "-2");
         change(9, "k", -12, "(1)/(k^12)");
+        change(9, "n", 12, "n^12");
         change(10, "n", -5, "-5");
         change(11, "n", 0, "-3");
         change(12, "n", 0, "-1");
