@@ -1,21 +1,27 @@
 /** What the tests share: calls with the answers that are due, and texts by way of the tape. */
 final class Due {
     private static int wrong = 0;
+    private static String about = "";
 
     private Due() {
+    }
+
+    /** What comes is for a promise (or a section of "Terms") and one of its sentences. */
+    static void of(String where, String sentence) {
+        about = where + ", \"" + sentence + "\": ";
     }
 
     static void due(String what, long got, long want) {
         if (got != want) {
             wrong++;
-            System.out.println(what + " answered " + got + ", due is " + want);
+            System.out.println(about + what + " answered " + got + ", due is " + want);
         }
     }
 
     static void due(String what, String got, String want) {
         if (!got.equals(want)) {
             wrong++;
-            System.out.println(what + " answered " + got + ", due is " + want);
+            System.out.println(about + what + " answered " + got + ", due is " + want);
         }
     }
 
@@ -60,5 +66,15 @@ final class Due {
             text.append((char) house.written(i));
         }
         return text.toString();
+    }
+
+    /** A text as the house writes it. */
+    static String plain(String text) {
+        return text(house(text), 0);
+    }
+
+    /** What came of a call into a slot, as text; the answer itself if that is below 0. */
+    static String came(SumHouse house, int answer, int slot) {
+        return answer < 0 ? String.valueOf(answer) : text(house, slot);
     }
 }
