@@ -204,7 +204,7 @@ public final class FormsEdgesTest {
     }
 
     private static void closedForms() {
-        Due.of(WHERE, "A CLOSED FORM of t: A, B, C of its quotient along k; x of the equation with Z = C; R = B(k-1) x(k)/C(k)");
+        Due.of(WHERE, "A CLOSED FORM of t: A, B, C of its quotient along k; x of the equation with Z = C; R = B(k - 1) x(k)/C(k)");
         close("1", "k");
         close("n/3", "k");
         close("2^k", "1");

@@ -58,10 +58,11 @@ public final class RecurrencesEdgesTest {
         orders("k", 0, 0, 0, 0);
         orders("0", -1, -1, -1, -1);
         Due.of("Promise 21", "NONE for others, or when there is none");
-        SumHouse h = Due.house("C(n,k)", "0", "k!^9");
+        SumHouse h = Due.house("C(n,k)", "0", "k!^9", "(3*k)!^5");
         for (int most : new int[] {-1, 4, Integer.MAX_VALUE, Integer.MIN_VALUE}) {
             Due.due("up to " + most, h.recur(0, most, 1), -1);
             Due.due("of what is LARGE, up to " + most, h.recur(2, most, 1), -1);
+            Due.due("of what does not fit, up to " + most, h.recur(3, most, 1), -1);
         }
         Due.due("of 0 up to 9", h.recur(1, 9, 1), -1);
         Due.due("into its own place", h.recur(0, 1, 0), 1);
@@ -186,6 +187,9 @@ public final class RecurrencesEdgesTest {
         // R has that degree above, while the a_i have less
         orders("(n^12+3+(n^10+1)*k+(n^5+n)*k^2)*k!^2", -1, -1, 2, 2);
         orders("(n^12+3+(n^10+1)*k+(n^6+n)*k^2)*k!^2", -1, -1, -2, -2);
+        // a_3 alone has degree 24, then 25
+        orders("(n^12+3+(n^8+1)*k+(n^4+n)*k^2)*k!^8/n!", -1, -1, -1, 3);
+        orders("(n^12+3+(n^8+1)*k+(n^5+n)*k^2)*k!^8/n!", -1, -1, -1, -2);
         SumHouse h = Due.house("(n^12+3+(n^10+1)*k+(n^5+n)*k^2)*k!^8", "(n^12+3+(n^10+1)*k+(n^5+n)*k^2)*k!^2");
         h.recur(0, 3, 2);
         Due.due("the number at n^24 of a_3", h.number(2, 5, 24, 0), 1);
@@ -197,7 +201,7 @@ public final class RecurrencesEdgesTest {
 
     /** What is worked out for a check has no bounds: a record with all its numbers at n^24 and k^12. */
     private static void largeRecords() {
-        Due.of(WHERE, "RIGHT for a term if that last sentence holds .., none being out of bounds however large what it is worked out by");
+        Due.of(WHERE, "RIGHT .. as one of ratios (s_i, the quotient along k), none being out of bounds however large what it is worked out by");
         SumHouse h = Due.house("C(n,k)", "C(n,3*k)", "(3*n)!^4*(3*k)!^4/(3*n+1)!^4", "n^24*k^12", "1/(n^24+n*k^5+k^12+7)");
         h.recur(0, 1, 5);
         // (n^24, 0 ..) times what it is: a_0 = -2 n^24, a_1 = n^24, R = n^24 k by k - n - 1
@@ -399,6 +403,16 @@ public final class RecurrencesEdgesTest {
         Due.due("high = 0, low = 0", h.holds(7, 0, 10, 0, 0), 1);
         Due.due("high = -1, low = 0", h.holds(7, 0, 10, 0, -1), -1);
         Due.due("high the greatest int", h.holds(7, 0, 10, 0, Integer.MAX_VALUE), -1);
+        // a ratio has values beyond 500, which are not looked at
+        SumHouse g = Due.house("1/(n+k)");
+        g.recur(0, 1, 1);
+        Due.due("a ratio, high = 499", g.holds(1, 0, 499, 0, 499), 1);
+        Due.due("a ratio, high = 500", g.holds(1, 0, 499, 0, 500), -1);
+        Due.due("a ratio, low = 501", g.holds(1, 0, 499, 501, 499), -1);
+        Due.due("a ratio, low = -1", g.holds(1, 0, 499, -1, 499), -1);
+        Due.due("a ratio, n = 500", g.holds(1, 0, 500, 0, 499), -1);
+        Due.due("a ratio, n = -1", g.holds(1, 0, -1, 2, 499), -1);
+        Due.due("a ratio, high = -1", g.holds(1, 0, 499, 0, -1), -1);
         Due.of("Promise 25", "NONE when one of these values, or R at these two places, has none");
         // R's denominator is k - n - 1
         Due.due("R at high + 1 = n + 1", h.holds(7, 0, 10, 2, 10), -1);

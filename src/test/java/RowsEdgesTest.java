@@ -317,7 +317,7 @@ public final class RowsEdgesTest {
     }
 
     private static void needsOfJoined() {
-        Due.of(WHERE, "What comes NEEDS as told, but " + NEEDED + "; its first numbers are those of w");
+        Due.of(WHERE, NEEDED + "; its first numbers are those of w");
         SumHouse h = Due.house("1");
         RowsTest.row(h, 1, new int[][] {{-2}, {1}}, 1);
         RowsTest.row(h, 2, new int[][] {{1}, {-5, 1}}, 1, 2, 3, 4, 5, 6, 7);
@@ -431,6 +431,16 @@ public final class RowsEdgesTest {
         Due.due("a_4 at n^24", h.number(11, 6, 24, 0), 1);
         RowsTest.row(h, 8, new int[][] {{1, 1, 2, 5, 3}, {5, 7, 2, 3, 5}, {2, 3, 2, 9, 4}}, 1, 2);
         Due.due("3 by 4: 28", h.join(2, 3, 8, 11), -2);
+        // one a_j alone is above: of order 4, the first, the last, the fourth, the second
+        int[][][] degrees = {{{6, 0, 0, 0}, {5, 0}}, {{0, 0, 0, 6}, {0, 5}}, {{0, 0, 0, 3}, {5, 0}}, {{3, 0, 0, 0}, {0, 5}},
+            {{4, 0, 0, 0}, {5, 0}}, {{2, 0, 0, 0}, {0, 5}}, {{0, 0, 0, 6}, {0, 3}}};
+        int[] want = {-2, -2, -2, -2, 4, 4, 4};
+        for (int i = 0; i < degrees.length; i++) {
+            SumHouse f = new SumHouse();
+            RowsTest.row(f, 0, steps(degrees[i][0], 2, 3, 5, 7), 1, 2, 3);
+            RowsTest.row(f, 1, steps(degrees[i][1], 11, 13), 1);
+            Due.due("one alone, " + i, f.join(0, 0, 1, 2), want[i]);
+        }
         // numbers alone, scaled: the order times the degree of s
         SumHouse g = Due.house("n^6+n+3", "n^5+n+3", "n^4+n+3", "1", "1", "1", "1");
         int[] bases = {2, 3, 5, 7, 11};
@@ -444,6 +454,16 @@ public final class RowsEdgesTest {
         }
         Due.due("5 by 4: 20", g.join(5, 4, 2, 5), 5);
         Due.due("5 by 5: 25", g.join(5, 4, 1, 5), -2);
+    }
+
+    /** Polynomials of these degrees and heads. */
+    private static int[][] steps(int[] degrees, int... heads) {
+        int[][] steps = new int[degrees.length][];
+        for (int m = 0; m < steps.length; m++) {
+            steps[m] = Arrays.copyOf(new int[] {1, 2, 3, 1, 2, 1, 5}, degrees[m] + 1);
+            steps[m][degrees[m]] = heads[m];
+        }
+        return steps;
     }
 
     private static void firstNumbersAbove() {

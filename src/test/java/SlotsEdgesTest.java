@@ -33,7 +33,7 @@ public final class SlotsEdgesTest {
     }
 
     private static void constants() {
-        Due.of("The constants", "NONE = -1, LARGE = -2, KIND = -3");
+        Due.of("The constants", "NONE = -1: There is none .. LARGE = -2: It would be too large .. KIND = -3");
         Due.due("NONE", SumHouse.NONE, -1);
         Due.due("LARGE", SumHouse.LARGE, -2);
         Due.due("KIND", SumHouse.KIND, -3);
