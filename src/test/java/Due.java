@@ -68,6 +68,16 @@ final class Due {
         return text.toString();
     }
 
+    /** That a slot has what a text is: the text written, the kind, and all degrees. */
+    static void same(String what, SumHouse house, int slot, String text) {
+        SumHouse other = house(text);
+        due(what, text(house, slot), text(other, 0));
+        due("kind of " + what, house.kind(slot), other.kind(0));
+        for (int i = 0; i < 4; i++) {
+            due("degree " + i + " of " + what, house.degree(slot, i / 2, i % 2), other.degree(0, i / 2, i % 2));
+        }
+    }
+
     /** A text as the house writes it. */
     static String plain(String text) {
         return text(house(text), 0);

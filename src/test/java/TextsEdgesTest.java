@@ -429,6 +429,9 @@ public final class TextsEdgesTest {
         fine("(2^n*k!)^(0-1)", Due.plain("(1/2)^n/k!"));
         fine("(n*k!)^0", "1");
         fine("(2^n)^3", "(1)*8^n");
+        fine("(2^n*3^k)^2", "(1)*4^n*9^k");
+        fine("(3^k*n)^3", "(n^3)*27^k");
+        fine("(3^k/n)^(0-1)", Due.plain("n*(1/3)^k"));
         fine("2^(0-1)", "-1073741823");
         Due.of(WHERE, "else u^(a n + b k + c) is u^c times u^a as X, u^b as Y");
         fine("2^(3*n-k+5)", "(32)*8^n*1073741824^k");

@@ -22,13 +22,12 @@ public final class WorkEdgesTest {
         Due.end();
     }
 
-    /** The text that comes of op on a and b, or the answer below 0, and the kind. */
+    /** What comes of op on a and b. */
     private static void work(int op, String a, String b, String want) {
         SumHouse h = Due.house(a, b);
         int kind = h.work(op, 0, 1, 2);
-        boolean none = want.startsWith("-") && want.length() == 2 && kind < 0;
-        Due.due("work " + op + " of " + a + " and " + b, Due.came(h, kind, 2), none ? want : Due.plain(want));
-        Due.due("kind of work " + op + " of " + a + " and " + b, h.kind(2), Math.max(kind, 0));
+        Due.same("work " + op + " of " + a + " and " + b, h, 2, want);
+        Due.due("work " + op + " of " + a + " and " + b, kind, h.kind(2));
     }
 
     private static void refuse(int op, String a, String b, int want) {
@@ -180,8 +179,8 @@ public final class WorkEdgesTest {
     private static void change(int op, String a, int v, String want) {
         SumHouse h = Due.house(a);
         int kind = h.change(op, 0, v, 1);
-        Due.due("change " + op + " of " + a + " by " + v, Due.came(h, kind, 1), Due.plain(want));
-        Due.due("kind of change " + op + " of " + a + " by " + v, h.kind(1), Math.max(kind, 0));
+        Due.same("change " + op + " of " + a + " by " + v, h, 1, want);
+        Due.due("change " + op + " of " + a + " by " + v, kind, h.kind(1));
     }
 
     private static void deny(int op, String a, int v, int want) {
@@ -216,6 +215,12 @@ public final class WorkEdgesTest {
         change(3, "(n^2-k^2)/(n+k+1)", 1, "(n^2-1)/(n+2)");
         change(3, "(n-1)/(n*k-1)", 1, "1");
         change(3, "7", 1, "7");
+        // a part that goes takes its degree along
+        change(2, "(n-1)*k^3+k", 1, "k");
+        change(3, "(k-1)*n^3+n", 1, "n");
+        change(2, "1/((n-1)*k^3+k)", 1, "1/k");
+        change(3, "1/((k-1)*n^3+n)", 1, "1/n");
+        change(2, "(n-1)*k^3+k*n-k", 1, "0");
         Due.of("Promise 15", "where a denominator becomes 0");
         deny(2, "k/(n-3)", 3, -1);
         deny(2, "1/(n*k-3*k+n-3)", 3, -1);
@@ -373,6 +378,9 @@ public final class WorkEdgesTest {
         deny(9, "n^3*n!", 9, -2);
         change(9, "n^3*2^n", 8, "n^24*256^n");
         change(9, "(-1)^k", 2, "1");
+        change(9, "2^n*3^k", 3, "8^n*27^k");
+        change(9, "2^n*3^k", -2, "(1/4)^n*(1/9)^k");
+        change(9, "n/k*3^k", 1, "n/k*3^k");
         Due.of("Promise 15", "11 its ratio (of a ratio KIND; 2 .. 8 of a term KIND)");
         change(11, "n/k*2^n", 0, "n/k");
         change(11, "C(n,k)", 5, "1");
