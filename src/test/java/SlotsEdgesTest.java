@@ -161,13 +161,14 @@ public final class SlotsEdgesTest {
             Due.due("told " + v, h.told(TERM, v), -1);
             Due.due("count " + v, h.count(v), -1);
             Due.due("join " + v, h.join(v, ROW, v, 11), -1);
-            Due.due("change " + v, v == 7 ? -1 : h.change(v, RATIO, 1, 11), -1);
-            Due.due("change of a term " + v, v == 7 ? -1 : h.change(v, TERM, 1, 11), -1);
-            Due.due("part " + v, v == -1 ? -1 : h.part(RECORD, v, 11), -1);
             Due.due("part of a row " + v, h.part(ROW, v, 11), -1);
         }
-        for (int op = 12; op < 16; op++) {
-            Due.due("change " + op, h.change(op, RATIO, 1, 11), -1);
+        for (int v : new int[] {-1, 12, 99, Integer.MAX_VALUE, Integer.MIN_VALUE}) {
+            Due.due("change " + v, h.change(v, RATIO, 1, 11), -1);
+            Due.due("change of a term " + v, h.change(v, TERM, 1, 11), -1);
+        }
+        for (int v : new int[] {-2, 2, 99, Integer.MAX_VALUE, Integer.MIN_VALUE}) {
+            Due.due("part " + v, h.part(RECORD, v, 11), -1);
         }
         Due.due("nothing came", h.kind(11), 0);
         Due.of("Promise 1", "what comes goes into slot to, in place of what is there (it may be one of the others)");
