@@ -3034,6 +3034,8 @@ public final class SumHouse {
         private static final int MODEST_N = 12;
         private static final int MODEST_K = 8;
         private static final int DEPTH = 8;
+        /** The greatest degree at which a solution for Z = 0 is looked for. */
+        private static final int FREE = 12;
         private static final int START = 7654321;
         private static final int POINTS = 100000;
         private final Room room;
@@ -3146,7 +3148,7 @@ public final class SumHouse {
                 int f = planes.times(planes.slice(formA, d - 1), denB);
                 h = numberOf(planes.plus(g, f, P - 1), planes.times(denA, denB));
             }
-            return h >= 0 && h <= MODEST_N ? Math.max(z - d + 1, h) : z - d + 1;
+            return h >= 0 && h <= FREE ? Math.max(z - d + 1, h) : z - d + 1;
         }
 
         /** a by b, if that is a number; -1 otherwise. */
@@ -3404,7 +3406,7 @@ public final class SumHouse {
             this.solver = solver;
             family = new int[MOST_ORDER + 2];
             mine = new int[PLACES + 1];
-            other = new int[PLACES + 1];
+            other = new int[MOST_FIRSTS];
             left = new int[(MOST_ORDER + 1) * MOST_ORDER];
             right = new int[(MOST_ORDER + 1) * MOST_ORDER];
         }
@@ -3412,13 +3414,13 @@ public final class SumHouse {
         // ---- the numbers of a row
 
         int member(Slot s, int i) {
-            numbersOf(s, mine);
+            numbersOf(s, mine, i + 1);
             return i >= 0 && i < mine.length ? mine[i] : NONE;
         }
 
-        /** u(0) .. u(300) of a row that has all its first numbers. */
-        private void numbersOf(Slot s, int[] to) {
-            for (int i = 0; i < to.length; i++) {
+        /** So many numbers, u(0) and on, of a row that has all its first numbers. */
+        private void numbersOf(Slot s, int[] to, int many) {
+            for (int i = 0; i < many && i < to.length; i++) {
                 int n = i - s.order;
                 if (i < s.has && i < s.firsts.length) {
                     to[i] = s.firsts[i];
@@ -3511,8 +3513,8 @@ public final class SumHouse {
                 }
                 planes.scale(family[0], P - 1);
             }
-            numbersOf(s, mine);
-            for (int i = 0; i < PLACES; i++) {
+            numbersOf(s, mine, MOST_FIRSTS + 1);
+            for (int i = 0; i < MOST_FIRSTS; i++) {
                 mine[i] = !summed ? mine[i + 1] : i == 0 ? mine[0] : Numbers.plus(mine[i - 1], mine[i]);
             }
             return joinedRow(target, order, s.needs);
@@ -3544,11 +3546,11 @@ public final class SumHouse {
             for (int j = 0; j <= order; j++) {
                 family[j] = solver.factorOf(j);
             }
-            numbersOf(s, mine);
+            numbersOf(s, mine, MOST_FIRSTS);
             if (op != 5) {
-                numbersOf(t, other);
+                numbersOf(t, other, MOST_FIRSTS);
             }
-            for (int i = 0; i < mine.length; i++) {
+            for (int i = 0; i < MOST_FIRSTS; i++) {
                 int by = op == 5 ? t.sideAt(0, i, 0) : other[i];
                 mine[i] = op == 0 ? Numbers.plus(mine[i], by) : op == 1 ? Numbers.minus(mine[i], by)
                         : Numbers.times(mine[i], by);
