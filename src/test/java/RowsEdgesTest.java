@@ -478,12 +478,16 @@ public final class RowsEdgesTest {
         Due.due("a_1 is n - 59", h.join(5, 4, 2, 8), -2);
         Due.due("59 and 1", h.join(4, 6, 0, 8), 1);
         Due.due("60", h.told(8, 4), 60);
+        Due.due("the last of the 60, moved", h.at(8, 59), h.at(6, 60));
         Due.due("60 and 1", h.join(4, 7, 0, 8), -2);
         Due.due("59 and 2, summed", h.join(3, 6, 0, 8), -2);
         Due.due("59 and 2, a sum", h.join(0, 6, 4, 8), -2);
         Due.due("59 and 2, the other's", h.join(1, 4, 6, 8), -2);
         Due.due("59 and 2, a product", h.join(2, 5, 6, 8), -2);
         Due.due("59 and 1, a product", h.join(2, 4, 6, 8), 1);
+        Due.due("the last of the 60, a product", h.at(8, 59), (long) h.at(4, 59) * h.at(6, 59) % P);
+        Due.due("59 and 1, a product, the other way", h.join(2, 6, 4, 8), 1);
+        Due.due("the last of the 60, the other way", h.at(8, 59), (long) h.at(4, 59) * h.at(6, 59) % P);
         Due.due("59 and 1, scaled", h.join(5, 6, 3, 8), 1);
         Due.due("60 and 1, scaled", h.join(5, 7, 3, 8), -2);
         Due.due("F (n - 57)", h.join(5, 5, 0, 8), 2);
