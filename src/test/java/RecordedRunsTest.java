@@ -5,7 +5,7 @@ import java.nio.file.Path;
 
 /**
  * Long runs of calls under src/test/runs, each line a call with the answer that is due. These answers
- * came from a model of the document that shares no code with the class (fractions in n worked out
+ * came from models of the document that share no code with the class (fractions in n worked out
  * one by one, Euclid along k, a parser that calls itself).
  */
 public final class RecordedRunsTest {
